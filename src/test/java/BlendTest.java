@@ -46,6 +46,14 @@ public final class BlendTest {
         x.fill(0, 0, 0, 700, 10, 10);
         Checks.due("five at most", -1, x.blend(0, 6, 40));
         Checks.due("five", 50, x.blend(0, 5, 40));
+        TallBins y = three();
+        for (int b : new int[] {0, 1, 2, 4}) {
+            y.fill(b, 3, 0, 500, 0, 10);
+        }
+        Checks.due("twenty of no damp", 0, y.blend(3, 20, 0));
+        Checks.due("one of no damp", 0, y.blend(3, 1, 0));
+        told(y, 0, 0, 0);
+        Checks.due("from the last", 1, y.blended(4));
     }
 
     private static void dampAsCanBe() {

@@ -65,6 +65,8 @@ public final class BooksTest {
         x.draw(0, 999);
         Checks.due("all out", 150, x.lot(7, 2));
         Checks.due("where", 2, x.lot(7, 3));
+        x.fill(0, 2, 0, 1, 15, 20);
+        Checks.due("where one is", 1, x.lot(0, 3));
         Checks.due("none such", Checks.NOTHING, x.lot(8, 0));
         Checks.due("none such", Checks.NOTHING, x.lot(-1, 0));
         Checks.due("none such", Checks.NOTHING, x.lot(0, 4));
@@ -86,9 +88,15 @@ public final class BooksTest {
             Checks.due("filled, what " + what, filled[what], x.bin(0, what));
         }
         x.fill(1, 0, 0, 3, 15, 20);
+        Checks.due("damp of all", 15, x.bin(1, 6));
+        x.fill(1, 0, 0, 3, 16, 20);
+        x.fill(1, 0, 0, 1, 12, 20);
+        Checks.due("damp of all, rounded down", 15, x.bin(1, 6));
+        x.fill(1, 0, 0, 1, 14, 20);
+        Checks.due("damp of all, just below", 14, x.bin(1, 6));
         x.draw(1, 1);
         Checks.due("hung", 1, x.bin(1, 3));
-        Checks.due("price of a grain not told", 300, x.bin(1, 7));
+        Checks.due("price of a grain not told", 800, x.bin(1, 7));
         Checks.due("none such", Checks.NOTHING, x.bin(2, 0));
         Checks.due("none such", Checks.NOTHING, x.bin(-1, 0));
         Checks.due("none such", Checks.NOTHING, x.bin(6, 0));
@@ -115,6 +123,7 @@ public final class BooksTest {
         for (int what = 0; what < want.length; what++) {
             Checks.due("count " + what, want[what], x.count(what));
         }
+        Checks.due("a bin of one ring is told", 1, Checks.house("bin 2 rings 1 hold 1 mouth 1 rough 0;").count(7));
         Checks.due("below", -1, x.count(-1));
         Checks.due("above", -1, x.count(12));
     }

@@ -52,6 +52,11 @@ public final class DayTest {
         y.fill(0, 0, 0, 10, 40, 19);
         y.day(19, 0, 0);
         Checks.due("warm is below", 19, y.ring(0, 0, 2));
+        y.draw(0, 10);
+        Checks.tell(y, "bin 0 rings 1 hold 10 mouth 99 rough 0;");
+        y.fill(0, 0, 0, 10, 40, 30);
+        y.day(30, 0, 0);
+        Checks.due("no breath is told any more", 30, y.ring(0, 0, 2));
     }
 
     private static void spreadToTheNought() {
@@ -71,6 +76,14 @@ public final class DayTest {
         // 5 times the lesser 4: 220 and 140, each a degree down
         Checks.due("lesser units, own", 21, x.ring(0, 0, 2));
         Checks.due("lesser units, next", 34, x.ring(0, 1, 2));
+        TallBins y = Checks.house("bin 0 rings 2 hold 1 mouth 99 rough 0;");
+        y.fill(0, 0, 0, 1, 10, 20);
+        y.fill(0, 0, 0, 1, 10, 40);
+        y.beetles(0, 0, 4);
+        y.day(50, 0, 0);
+        Checks.due("one unit, own", 26, y.ring(0, 0, 2));
+        Checks.due("one unit, next", 36, y.ring(0, 1, 2));
+        Checks.due("one unit, beetles", 8, y.ring(0, 0, 3));
     }
 
     private static void spreadGoesUpward() {

@@ -84,6 +84,10 @@ public final class GaugeTest {
         Checks.due("the lowest of like ones", 1, x.nextRope(0));
         x.gauge(0, 2, 28);
         Checks.due("each is sure", -1, x.nextRope(0));
+        TallBins y = Checks.house("bin 0 rings 3 hold 10 mouth 99 rough 0;");
+        y.gauge(0, 0, 20);
+        y.gauge(0, 2, 27);
+        Checks.due("two numbers are not sure", 1, y.nextRope(0));
     }
 
     private static void lies() {
@@ -99,6 +103,11 @@ public final class GaugeTest {
         x.gauge(0, 4, 99);
         x.gauge(0, 1, 99);
         Checks.due("those told alone", 8, x.lies(0));
+        TallBins y = rope();
+        y.gauge(0, 0, 0);
+        Checks.due("no units, no degrees", 1, y.lies(0));
+        y.fill(0, 0, 0, 1, 10, 0);
+        Checks.due("one unit", 0, y.lies(0));
     }
 
     /** Each ring's span, looked for by hand over all readings that step by four at most. */

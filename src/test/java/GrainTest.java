@@ -124,6 +124,9 @@ public final class GrainTest {
         }
         x.fill(0, 0, 0, 1, 19, 10);
         Checks.due("a grain not told grips 10", 0, x.flow(0));
+        TallBins y = Checks.house("bin 0 rings 2 hold 100 mouth 18 rough 0; grain 1 heavy 1 grip 18 price 1;");
+        y.fill(0, 1, 0, 1, 0, 0);
+        Checks.due("dry grain is held by its grip alone", 0, y.flow(0));
         x.draw(0, 1);
         x.fill(0, 0, 0, 1, 20, 10);
         Checks.due("10 and 12 are above 20", 1, x.flow(0));
@@ -155,6 +158,10 @@ public final class GrainTest {
         Checks.due("empty", -6, x.draw(0, 1));
         Checks.due("drawn today", 210, x.bin(0, 5));
         Checks.due("no beetles", 0, x.count(9));
+        x.fill(0, 0, 0, 1, 10, -10);
+        x.draw(0, 1);
+        Checks.due("a load of one", 10, x.load(1));
+        Checks.due("a cold load of one", -10, x.load(2));
         TallBins y = Checks.house("bin 0 rings 4 hold 10 mouth 20 rough 30;");
         y.fill(0, 0, 0, 10, 10, 10);
         y.fill(0, 0, 1, 10, 11, 10);
@@ -282,6 +289,10 @@ public final class GrainTest {
         Checks.due("not twice", -5, x.poke(0));
         rings("as they were", x, 0, 2, 50, 10, 20);
         Checks.due("hangs again", 0, x.draw(0, 5));
+        x.poke(0);
+        x.fill(0, 2, 0, 51, 10, 20);
+        x.draw(0, 1);
+        Checks.due("a ring of one unit", 7 * 301 * 4, x.poke(0));
     }
 
     private static void turnsAll() {

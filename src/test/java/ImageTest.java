@@ -59,7 +59,10 @@ public final class ImageTest {
     private static void allThatIsKept() {
         TallBins x = Checks.house(TWO);
         x.keep(0);
-        x.fill(0, 2, 1, 170, 20, 12);
+        for (int i = 0; i < 43; i++) {
+            x.fill(0, 2, i % 8, 1, 20, 12);
+        }
+        x.fill(0, 2, 1, 127, 20, 12);
         x.fill(1, 0, 2, 30, 10, 12);
         x.beetles(0, 0, 9);
         x.draw(0, 15);
@@ -89,7 +92,8 @@ public final class ImageTest {
         Checks.due("the man is out again", -5, x.leave(0));
         Checks.due("hung again", -5, x.draw(1, 1));
         x.fill(0, 2, 1, 1, 20, 12);
-        Checks.due("the books go on", 1, x.filled(2, 3));
+        Checks.due("the books go on", 1, x.filled(39, 3));
+        Checks.due("behind those of then", 30, x.filled(38, 3));
         Checks.due("the weather of then", -5, x.count(11));
     }
 

@@ -50,6 +50,12 @@ public final class MenTest {
         TallBins y = Checks.house(TWO);
         y.fill(0, 0, 0, 60, 10, 25);
         Checks.due("no bars", -1, y.barred(0));
+        TallBins z = Checks.house("bin 0 rings 1 hold 9 mouth 9 rough 0;" + "bar hung and hung and hung;".repeat(19)
+                + "bar not hung and not hung and units>5;");
+        z.fill(0, 0, 0, 5, 5, 5);
+        Checks.due("sixty conds, the last one not", -1, z.barred(0));
+        z.fill(0, 0, 0, 1, 5, 5);
+        Checks.due("sixty conds", 19, z.barred(0));
     }
 
     private static void holds(String cond, int... want) {
@@ -86,7 +92,7 @@ public final class MenTest {
         TallBins x = Checks.house(TWO + "bar drawn;");
         x.fill(0, 0, 0, 100, 12, 20);
         Checks.due("not drawn", -1, x.barred(0));
-        x.draw(0, 5);
+        x.draw(0, 1);
         Checks.due("drawn", 0, x.barred(0));
         Checks.due("the other is not", -1, x.barred(1));
         x.day(10, 0, 0);

@@ -102,6 +102,10 @@ public final class PlanTest {
         rows(x, 11, 0, 1);
         x.enter(0, 0);
         Checks.due("one has a man", -1, x.plan(11));
+        TallBins z = Checks.house(bin(0, 3, 99) + bin(1, 3, 99));
+        z.fill(0, 0, 0, 1, 5, 20);
+        z.enter(0, 1);
+        Checks.due("one unit, a man in the other", -1, z.plan(20));
         x.leave(0);
         x.enter(0, 2);
         rows(x, 11, 0, 1);

@@ -68,6 +68,11 @@ public final class PushTest {
         Checks.due("the lowest of like ones", 0, x.worst(0, true));
         x.fill(1, 0, 0, 25, 10, 20);
         Checks.due("smooth walls", 0, x.worst(1, false));
+        TallBins z = Checks.house("bin 0 rings 3 hold 3 mouth 30 rough 60;grain 0 heavy 1 grip 1 price 1;");
+        z.fill(0, 0, 0, 9, 10, 20);
+        // 3: 1; 5: 3, but 4; 4: 2
+        pushes(z, 0, true, new int[] {4, 5, 3}, new int[] {2, 4, 1});
+        Checks.due("not the floor's", 1, z.worst(0, true));
         TallBins y = Checks.house("bin 0 rings 2 hold 10 mouth 30 rough 80;grain 0 heavy 1 grip 1 price 1;");
         y.fill(0, 0, 0, 20, 10, 20);
         // 10: 8, passes 2; 12: 9. emptied: 10: 8 -> 11, but 10; then 10 again

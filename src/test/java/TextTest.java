@@ -2,6 +2,7 @@
 public final class TextTest {
     public static void main(String[] args) {
         newObject();
+        asTheReadmeSays();
         tapes();
         goodTexts();
         faultsOfTokens();
@@ -27,6 +28,17 @@ public final class TextTest {
         Checks.due("new fill", -2, x.fill(0, 0, 0, 1, 1, 1));
         Checks.due("new refused", -1, x.refused());
         Checks.due("new back", -6, x.back(0));
+    }
+
+    private static void asTheReadmeSays() {
+        TallBins x = new TallBins();
+        x.feed(0x62696e20, 0x30207269, 0x6e677320, 0x3320686f, 0x6c642039);
+        x.feed(0x206d6f75, 0x74682032, 0x3020726f, 0x75676820, 0x33303b20);
+        Checks.due("end", 39, x.end(39));
+        Checks.due("text", 1, x.text());
+        Checks.due("fill", 12, x.fill(0, 0, 2, 12, 15, 20));
+        Checks.due("flow", 0, x.flow(0));
+        Checks.due("draw", 5, x.draw(0, 5));
     }
 
     private static void tapes() {
@@ -113,6 +125,8 @@ public final class TextTest {
         fault("bar hung and", 1, 12);
         fault("bar hung hung;", 1, 9);
         fault("bar nothung;", 1, 4);
+        fault("bar hotz<5;", 1, 4);
+        fault("bar ahot<5;", 1, 4);
         fault("bar hot>5 and;", 1, 13);
         fault("breath warm 5 add 5;", 1, 14);
         fault("grain 0 grip 5;", 1, 8);
@@ -141,6 +155,8 @@ public final class TextTest {
         fault("bar wet<99999999999999999999999999999999;", 2, 8);
         fault("bin 0 rings 1 hold 1 mouth 1 rough 0;bin 0 x", 2, 41);
         fault("grain 2 heavy 1 grip 1 price 1;grain 02 x", 2, 37);
+        fault("bin 5 rings 1 hold 1 mouth 1 rough 0;bin 5 x", 2, 41);
+        fault("grain 3 heavy 1 grip 1 price 1;grain 3 x", 2, 37);
     }
 
     private static void faultsOfTooMany() {
