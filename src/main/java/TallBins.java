@@ -324,7 +324,7 @@ public final class TallBins {
     // ---- days ----
 
     public int day(int weather, int fans, int air) {
-        if (weather < -40 || weather > 50 || air < 0 || air > 9999) {
+        if (weather < -40 || weather > 50 || !areBins(fans) || air < 0 || air > 9999) {
             return NO_SUCH;
         }
         blender.valid = false;
@@ -638,6 +638,11 @@ public final class TallBins {
 
     private boolean isTold(int bin) {
         return bin >= 0 && bin < BINS && house.bins[bin].rings > 0;
+    }
+
+    // A bit of a BIN that isn't told is fine: it is a BIN all the same.
+    private static boolean areBins(int bits) {
+        return bits >= 0 && bits < 1 << BINS;
     }
 
     private boolean isRing(int bin, int ring) {

@@ -10,6 +10,7 @@ public final class DayTest {
         beetlesBreed();
         beetlesAtMost();
         refused();
+        fansOfNoBin();
         marks();
         foretold();
         Checks.finish();
@@ -126,11 +127,11 @@ public final class DayTest {
         Checks.due("the lower one first", 12, x.ring(0, 1, 1));
         Checks.due("what is left", 19, x.ring(0, 2, 1));
         Checks.due("its rest", 5, x.ring(0, 2, 4));
-        Checks.due("the other bin", 12, x.ring(3, 0, 1) );
+        Checks.due("the other bin", 12, x.ring(3, 0, 1));
         x.back(0);
-        Checks.due("all of it, all bits", 130, x.day(10, -1, 9999));
+        Checks.due("all of it, all bins", 130, x.day(10, 63, 9999));
         Checks.due("at 12", 12, x.ring(0, 2, 1));
-        Checks.due("no more", 0, x.day(10, -1, 9999));
+        Checks.due("no more", 0, x.day(10, 63, 9999));
         Checks.due("dried in all", 130, x.count(4));
     }
 
@@ -198,6 +199,31 @@ public final class DayTest {
         Checks.due("beetles come", 1000, x.beetles(0, 0, 1000));
         Checks.due("more come", 1001, x.beetles(0, 0, 1));
         Checks.due("none above", -6, x.beetles(0, 1, 1));
+    }
+
+    private static void fansOfNoBin() {
+        int[] others = {64, 65, 127, 128, 64 + 63, 1 << 30, -1, -64, -63, Integer.MIN_VALUE, Integer.MIN_VALUE + 1, Integer.MAX_VALUE};
+        TallBins x = one();
+        x.fill(0, 0, 0, 200, 20, 30);
+        x.blend(0, 1, 40);
+        x.draw(0, 50);
+        Checks.due("a blend", 20, x.blend(0, 1, 40));
+        for (int fans : others) {
+            Checks.due("fans " + fans, -2, x.day(20, fans, 100));
+        }
+        Checks.due("no day passed", 0, x.count(1));
+        Checks.due("the weather stays", 10, x.count(11));
+        Checks.due("nothing dried", 0, x.count(4));
+        Checks.due("no warmer, no cooler", 30, x.ring(0, 0, 2));
+        Checks.due("drawn today", 50, x.bin(0, 5));
+        Checks.due("the blend stays", 100, x.serve());
+        TallBins y = new TallBins();
+        Checks.due("no bin is told, none of them", -2, y.day(0, -1, 0));
+        Checks.due("no bin is told, all of them", 0, y.day(0, 63, 9999));
+        for (int b = 0; b < 6; b++) {
+            Checks.due("no bin is told, bin " + b, 0, y.day(0, 1 << b, 9999));
+        }
+        Checks.due("seven days", 7, y.count(1));
     }
 
     private static void marks() {
