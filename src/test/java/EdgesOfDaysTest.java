@@ -48,6 +48,8 @@ public final class EdgesOfDaysTest {
                 "wall 0 1 true = 100", "wall 0 0 true = 100", "worst 0 true = 0", "wall 0 1 false = 94", "wall 0 0 false = 99", "worst 0 false = 0");
         Script.run("a higher one", "bin 0 rings 3 hold 3 mouth 30 rough 60;grain 0 heavy 1 grip 1 price 1;", "fill 0 0 0 9 10 20 > 9",
                 "wall 0 0 true = 2", "wall 0 1 true = 4", "wall 0 2 true = 1", "worst 0 true = 1");
+        Script.run("the lowest of several higher ones", "bin 0 rings 4 hold 3 mouth 30 rough 72;grain 0 heavy 2 grip 1 price 1;", "fill 0 0 0 11 10 20 > 11",
+                "wall 0 0 true = 5", "wall 0 1 true = 7", "wall 0 2 true = 7", "wall 0 3 true = 2", "worst 0 true = 1");
     }
 
     private static void day() {

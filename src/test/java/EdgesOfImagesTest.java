@@ -61,6 +61,14 @@ public final class EdgesOfImagesTest {
                 "write 0 7 1 = -7", "fills 0 0 > 1", "row 0 0 0 > 0", "write 0 0 1 = -7", "count 10 = 1", "fills 0 0 = 0");
         Script.run("all 0 (in place of another one)", BINS, "row 0 0 5 > 0", "write 0 2 1 > 0", "row 0 0 5 > 0", "fills 0 0 = 0", "write 0 2 1 > 0", "fills 0 0 > 1", "row 0 0 60 > 0",
                 "fills 0 0 = 0", "row 0 1 5 > 0", "paste 0 0 0 0 5 > 0");
+        String[] full = new String[120];
+        for (int i = 0; i < 60; i++) {
+            full[i] = "write 0 " + i + " " + (i % 5 == 0 ? 3 : i % 5 == 1 ? 7 : 9) + " > 0";
+            full[60 + i] = i % 5 == 2 ? "write 0 " + i + " 1 > 0" : "count 10 = 1";
+        }
+        full[60] = "row 0 2 60 > 0";
+        Script.run("each of the numbers is 0", BINS, then(new String[] {"row 0 2 60 > 0"}, then(full, "fills 0 0 > 12", "bin 0 2 = 0", "bin 0 6 = 0", "ring 0 0 2 = 0",
+                "ring 0 0 5 = 12", "filled 11 1 = 0", "filled 11 2 = 0")));
     }
 
     private static void write() {

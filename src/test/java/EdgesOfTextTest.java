@@ -68,6 +68,12 @@ public final class EdgesOfTextTest {
                 "gauge 0 0 1 > 1");
         Script.run("GRAINS are told anew", BIN + "grain 1 heavy 1 grip 99 price 3;", "fill 0 1 0 1 5 5 > 1", "flow 0 = 2", "bin 0 7 = 3", "back 2 > 0",
                 "tape " + BIN, "text > 1", "fill 0 1 0 1 5 5 > 1", "flow 0 = 0", "bin 0 7 = 100");
+        Script.run("a GRAIN told by the TEXT ahead may be told", BIN + "grain 1 heavy 1 grip 99 price 3;", "tape grain 1 heavy 2 grip 1 price 4;" + BIN, "text > 2",
+                "fill 0 1 0 1 5 5 > 1", "bin 0 7 = 4", "press 0 0 false = 2");
+        Script.run("BARS of the TEXT alone", BIN + "bar not hung and units<5;bar drawn and units<5;", "barred 0 = 0", "tape bar hung;bar drawn and x", "text > -4",
+                "barred 0 = 0", "tape " + BIN + "bar units>0;", "text > 2", "count 5 = 1", "barred 0 = -1", "fill 0 0 0 5 5 5 > 5", "barred 0 = 0");
+        Script.run("BREATHS of the TEXT alone", BIN + "breath warm 0 damp 0 add 9;", "tape breath warm 0 damp 0 add 8;x", "text > -4", "tape " + BIN, "text > 1",
+                "fill 0 0 0 5 5 20 > 5", "day 20 0 0 > 0", "ring 0 0 2 = 20");
         Script.run("a TAPE of 600 bytes", null, "tape " + BIN + " ".repeat(559), "count 6 = 600", "text > 1", "bin 0 0 = 3");
         Script.run("its last byte counts", null, "tape " + BIN + " ".repeat(558) + "x", "text > -4", "fault 1 = 599", "fault 0 = 1");
         Script.run("a LINE to its last byte", null, "tape " + " ".repeat(559) + BIN, "text > 1", "bin 0 0 = 3");
